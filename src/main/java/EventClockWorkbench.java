@@ -1055,8 +1055,8 @@ public final class EventClockWorkbench {
                 if (hasGoal(own, other, from, to)) {
                     return events;
                 }
-                if (events < most) {
-                    expandAll(own, other, from, to);
+                for (int i = from; i < to && events < most; i++) {
+                    expand(own, other, configurationAt(i));
                 }
                 from = to;
             }
@@ -1074,29 +1074,24 @@ public final class EventClockWorkbench {
             size = 0;
         }
 
+        /** Numbers the configurations by the valuations that can be after an event, and last the first one. */
         private static int placeOf(int valuation, int sets) {
-            return 256 * rank(valuation) + sets;
-        }
-
-        /** Numbers the valuations that can be after an event, and last the first valuation. */
-        private static int rank(int valuation) {
             int a = valuation % 6;
             int b = valuation / 6 % 6;
             int c = valuation / 36;
             if (a == 0) {
-                return b + 6 * c;
+                return 256 * (b + 6 * c) + sets;
             }
             if (b == 0) {
-                return 36 + a - 1 + 5 * c;
+                return 256 * (36 + a - 1 + 5 * c) + sets;
             }
-            return c == 0 ? 66 + a - 1 + 5 * (b - 1) : 91;
+            return c == 0 ? 256 * (66 + a - 1 + 5 * (b - 1)) + sets : 256 * 91 + sets;
         }
 
-        /** Enters a configuration; one without own states is left out, for nothing is accepted from there. */
         private void enter(int valuation, int ownSet, int otherSet) {
             int sets = ownSet * SETS + otherSet;
             int place = placeOf(valuation, sets);
-            if (ownSet != 0 && isIndex(place, PLACES) && places[place] == 0 && isIndex(size, PLACES)) {
+            if (isIndex(place, PLACES) && places[place] == 0 && isIndex(size, PLACES)) {
                 queue[size] = 256 * valuation + sets;
                 size++;
                 places[place] = size;
@@ -1134,20 +1129,18 @@ public final class EventClockWorkbench {
             return false;
         }
 
-        private void expandAll(Powerset own, Powerset other, int from, int to) {
-            for (int i = from; i < to; i++) {
-                expand(own, other, configurationAt(i));
-            }
-        }
-
+        /** Where no own state is left nothing is accepted, so nothing is entered. */
         private void expand(Powerset own, Powerset other, int configuration) {
             int ownSet = configuration / SETS % SETS;
             int otherSet = configuration % SETS;
             for (int delay = 0; delay <= LONGEST_DELAY; delay++) {
                 int reading = Values.later(configuration / 256, delay);
                 for (int letter = 0; letter < LETTERS; letter++) {
-                    enter(Values.withZero(reading, letter), own.successor(ownSet, letter, reading),
-                            other.successor(otherSet, letter, reading));
+                    int ownNext = own.successor(ownSet, letter, reading);
+                    if (ownNext != 0) {
+                        enter(Values.withZero(reading, letter), ownNext,
+                                other.successor(otherSet, letter, reading));
+                    }
                 }
             }
         }
@@ -1156,6 +1149,9 @@ public final class EventClockWorkbench {
         private int positionBehind(Powerset own, Powerset other, int configuration, int letter, int delay) {
             int reading = Values.later(configuration / 256, delay);
             int ownNext = own.successor(configuration / SETS % SETS, letter, reading);
+            if (ownNext == 0) {
+                return NONE;
+            }
             int otherNext = other.successor(configuration % SETS, letter, reading);
             int place = placeOf(Values.withZero(reading, letter), ownNext * SETS + otherNext);
             return isIndex(place, PLACES) ? places[place] - 1 : NONE;
