@@ -7,6 +7,7 @@ import java.util.NoSuchElementException;
 import java.util.Random;
 import java.util.Set;
 import java.util.TreeMap;
+import java.util.function.ToIntFunction;
 
 /** Random automata and words, answered a second time by a plain model that works another way. */
 public final class EventClockWorkbenchOracle {
@@ -42,6 +43,44 @@ public final class EventClockWorkbenchOracle {
                 case "!" -> true;
                 default -> false;
             };
+        }
+    }
+
+    /** A workbench that is made anew after 512 calls, by its steps so far, as no more are promised. */
+    private static final class Bench {
+        final List<ToIntFunction<EventClockWorkbench>> steps = new ArrayList<>();
+        private EventClockWorkbench workbench = new EventClockWorkbench();
+        private int calls = 0;
+
+        EventClockWorkbench ask() {
+            if (calls >= 512) {
+                rebuild();
+            }
+            calls++;
+            return workbench;
+        }
+
+        int step(ToIntFunction<EventClockWorkbench> step) {
+            EventClockWorkbench asked = ask();
+            steps.add(step);
+            return step.applyAsInt(asked);
+        }
+
+        void shorten(int size) {
+            steps.subList(size, steps.size()).clear();
+            rebuild();
+        }
+
+        private void rebuild() {
+            workbench = new EventClockWorkbench();
+            calls = steps.size();
+            for (ToIntFunction<EventClockWorkbench> step : steps) {
+                try {
+                    step.applyAsInt(workbench);
+                } catch (NoSuchElementException e) {
+                    // A search that found nothing finds nothing again.
+                }
+            }
         }
     }
 
@@ -177,14 +216,13 @@ public final class EventClockWorkbenchOracle {
     public static void main(String[] args) {
         for (int seed = 0; seed < 400; seed++) {
             Random random = new Random(seed);
-            EventClockWorkbench x = new EventClockWorkbench();
+            Bench x = new Bench();
             Model[] models = {new Model(), new Model()};
-            int style = seed % 4;
             for (int slot = 0; slot < 2; slot++) {
-                fill(x, slot, models[slot], random, style);
+                fill(x, slot, models[slot], random, seed % 4);
             }
             if (seed % 5 == 0) {
-                x.copyAutomaton(0);
+                x.step(w -> copied(w, 0));
                 models[1] = new Model();
                 models[1].transitions.addAll(models[0].transitions);
                 models[1].initial = models[0].initial;
@@ -195,10 +233,12 @@ public final class EventClockWorkbenchOracle {
                 String who = "seed " + seed + " slot " + slot + " ";
                 guards(who, x, slot, models[slot]);
                 determinization(who, x, slot, models[slot]);
-                searches(who, x, slot, models[slot], models[1 - slot]);
                 counts(who, x, slot, models[slot], random);
+                searches(who, x, slot, models[slot], models[1 - slot]);
             }
+            int steps = x.steps.size();
             for (int i = 0; i < 5; i++) {
+                x.shorten(steps);
                 word("seed " + seed + " word " + i + " ", x, models, random);
             }
         }
@@ -208,18 +248,23 @@ public final class EventClockWorkbenchOracle {
         }
     }
 
-    private static void removeOne(EventClockWorkbench x, Model model, Random random) {
+    private static int copied(EventClockWorkbench x, int slot) {
+        x.copyAutomaton(slot);
+        return slot;
+    }
+
+    private static void removeOne(Bench x, Model model, Random random) {
         if (!model.transitions.isEmpty()) {
             int gone = random.nextInt(model.transitions.size());
             model.transitions.remove(gone);
-            due("removeTransition", x.removeTransition(1, gone), model.transitions.size());
+            due("removeTransition", x.step(w -> w.removeTransition(1, gone)), model.transitions.size());
         }
     }
 
-    private static void fill(EventClockWorkbench x, int slot, Model model, Random random, int style) {
+    private static void fill(Bench x, int slot, Model model, Random random, int style) {
         int count = style == 0 ? random.nextInt(4) : 3 + random.nextInt(8);
         int letters = style == 3 ? 2 : 3;
-        for (int i = 0; i < count; i++) {
+        for (int i = 0; i < count && x.steps.size() < 180 * (slot + 1); i++) {
             StringBuilder guard = new StringBuilder();
             int constraints = style == 2 ? random.nextInt(5) : random.nextInt(3);
             for (int k = 0; k < constraints; k++) {
@@ -228,16 +273,17 @@ public final class EventClockWorkbenchOracle {
             Transition t = new Transition(random.nextInt(4), random.nextInt(letters), random.nextInt(4),
                     guard.toString());
             for (char c : t.guard.toCharArray()) {
-                x.appendCharacter(c);
+                x.step(w -> w.appendCharacter(c));
             }
-            due("addTransition", x.addTransition(slot, t.from, t.letter, t.to), i);
+            due("addTransition", x.step(w -> w.addTransition(slot, t.from, t.letter, t.to)), i);
             model.transitions.add(t);
         }
-        for (int state = 0; state < 4; state++) {
+        for (int s = 0; s < 4; s++) {
+            int state = s;
             boolean initial = state == 0 ? random.nextInt(8) != 0 : random.nextInt(6) == 0;
             boolean last = random.nextInt(4) == 0;
-            x.setInitial(slot, state, initial);
-            x.setFinal(slot, state, last);
+            x.step(w -> w.setInitial(slot, state, initial) ? 1 : 0);
+            x.step(w -> w.setFinal(slot, state, last) ? 1 : 0);
             model.initial = initial ? model.initial | 1 << state : model.initial & ~(1 << state);
             model.finals = last ? model.finals | 1 << state : model.finals & ~(1 << state);
         }
@@ -250,7 +296,7 @@ public final class EventClockWorkbenchOracle {
         return clock + signs[kind] + (kind < 5 ? String.valueOf(random.nextInt(4)) : "");
     }
 
-    private static void guards(String who, EventClockWorkbench x, int slot, Model model) {
+    private static void guards(String who, Bench x, int slot, Model model) {
         boolean conflict = false;
         for (int i = 0; i < model.transitions.size(); i++) {
             Transition t = model.transitions.get(i);
@@ -262,12 +308,12 @@ public final class EventClockWorkbenchOracle {
                     conflict |= u.from == t.from && u.letter == t.letter && u.allows(v) && t.allows(v);
                 }
             }
-            due(who + "satisfyingValuations " + i, x.satisfyingValuations(slot, i), satisfying);
+            due(who + "satisfyingValuations " + i, x.ask().satisfyingValuations(slot, i), satisfying);
         }
-        due(who + "isDeterministic", x.isDeterministic(slot), !conflict && Integer.bitCount(model.initial) == 1);
+        due(who + "isDeterministic", x.ask().isDeterministic(slot), !conflict && Integer.bitCount(model.initial) == 1);
     }
 
-    private static void determinization(String who, EventClockWorkbench x, int slot, Model model) {
+    private static void determinization(String who, Bench x, int slot, Model model) {
         List<Integer> sets = new ArrayList<>(List.of(model.initial));
         int branchSum = 0;
         for (int i = 0; i < sets.size(); i++) {
@@ -285,30 +331,30 @@ public final class EventClockWorkbenchOracle {
                     valuations.merge(next, 1, Integer::sum);
                 }
                 branchSum += targets.size();
-                due(who + "branches", x.branches(slot, i, letter), targets.size());
+                due(who + "branches", x.ask().branches(slot, i, letter), targets.size());
                 for (int b = 0; b < targets.size(); b++) {
-                    due(who + "branchTarget", x.branchTarget(slot, i, letter, b), sets.indexOf(targets.get(b)));
-                    due(who + "branchValuations", x.branchValuations(slot, i, letter, b),
+                    due(who + "branchTarget", x.ask().branchTarget(slot, i, letter, b), sets.indexOf(targets.get(b)));
+                    due(who + "branchValuations", x.ask().branchValuations(slot, i, letter, b),
                             valuations.get(targets.get(b)));
                 }
             }
         }
-        due(who + "deterministicStates", x.deterministicStates(slot), sets.size());
+        due(who + "deterministicStates", x.ask().deterministicStates(slot), sets.size());
         for (int i = 0; i < sets.size(); i++) {
-            due(who + "deterministicSet", x.deterministicSet(slot, i), sets.get(i));
+            due(who + "deterministicSet", x.ask().deterministicSet(slot, i), sets.get(i));
         }
-        due(who + "averageBranches", x.averageBranches(slot), (float) branchSum / (float) (3 * sets.size()));
+        due(who + "averageBranches", x.ask().averageBranches(slot), (float) branchSum / (float) (3 * sets.size()));
     }
 
-    private static void searches(String who, EventClockWorkbench x, int slot, Model own, Model other) {
+    private static void searches(String who, Bench x, int slot, Model own, Model other) {
         Model nothing = new Model();
         nothing.initial = 0;
-        due(who + "isEmpty", x.isEmpty(slot), !isReachable(own, nothing));
-        due(who + "isIncluded", x.isIncluded(slot), !isReachable(own, other));
+        due(who + "isEmpty", x.ask().isEmpty(slot), !isReachable(own, nothing));
+        due(who + "isIncluded", x.ask().isIncluded(slot), !isReachable(own, other));
         List<Event> before = taken(x);
         List<Event> witness = first(own, nothing);
         try {
-            int events = x.takeWitness(slot);
+            int events = x.step(w -> w.takeWitness(slot));
             due(who + "takeWitness", events, witness == null ? (Object) "throws" : witness.size());
         } catch (NoSuchElementException e) {
             due(who + "takeWitness throws", witness == null, true);
@@ -317,7 +363,7 @@ public final class EventClockWorkbenchOracle {
         before = taken(x);
         List<Event> difference = first(own, other);
         try {
-            int events = x.takeDifference(slot);
+            int events = x.step(w -> w.takeDifference(slot));
             due(who + "takeDifference", events, difference == null ? (Object) "throws" : difference.size());
         } catch (NoSuchElementException e) {
             due(who + "takeDifference throws", difference == null, true);
@@ -326,10 +372,10 @@ public final class EventClockWorkbenchOracle {
         bruteForce(who, own, other, difference);
     }
 
-    private static List<Event> taken(EventClockWorkbench x) {
+    private static List<Event> taken(Bench x) {
         List<Event> word = new ArrayList<>();
-        for (int i = 0; i < x.wordLength(); i++) {
-            word.add(new Event(x.event(i, 0), x.event(i, 1)));
+        for (int i = 0; i < x.ask().wordLength(); i++) {
+            word.add(new Event(x.ask().event(i, 0), x.ask().event(i, 1)));
         }
         return word;
     }
@@ -423,13 +469,13 @@ public final class EventClockWorkbenchOracle {
         due(who + "brute force", difference, best == null ? "nothing" : best.word);
     }
 
-    private static void counts(String who, EventClockWorkbench x, int slot, Model model, Random random) {
+    private static void counts(String who, Bench x, int slot, Model model, Random random) {
         for (int events = 0; events <= 10; events += events < 3 ? 1 : 3 + random.nextInt(2)) {
             for (int longest = 0; longest <= 4; longest += 1 + random.nextInt(2)) {
                 long want = counted(model, events, longest);
-                due(who + "acceptedWords " + events + " " + longest, x.acceptedWords(slot, events, longest), want);
+                due(who + "acceptedWords " + events + " " + longest, x.ask().acceptedWords(slot, events, longest), want);
             }
-            due(who + "acceptedShare " + events, x.acceptedShare(slot, events),
+            due(who + "acceptedShare " + events, x.ask().acceptedShare(slot, events),
                     (double) counted(model, events, 4) / (double) Math.round(Math.pow(15, events)));
         }
     }
@@ -457,19 +503,19 @@ public final class EventClockWorkbenchOracle {
         return sum;
     }
 
-    private static void word(String who, EventClockWorkbench x, Model[] models, Random random) {
-        x.clearWord();
+    private static void word(String who, Bench x, Model[] models, Random random) {
+        x.step(w -> w.clearWord());
         List<Event> word = new ArrayList<>();
         int length = random.nextInt(8);
         for (int i = 0; i < length; i++) {
             Event e = new Event(random.nextInt(5), random.nextInt(3));
             word.add(e);
-            due(who + "appendEvent", x.appendEvent(e.delay, e.letter), i + 1);
+            due(who + "appendEvent", x.step(w -> w.appendEvent(e.delay, e.letter)), i + 1);
         }
         int valuation = 999;
         for (int i = 0; i < length; i++) {
             int reading = later(valuation, word.get(i).delay);
-            due(who + "valuationBefore " + i, x.valuationBefore(i), reading);
+            due(who + "valuationBefore " + i, x.ask().valuationBefore(i), reading);
             for (int slot = 0; slot < 2; slot++) {
                 blocking(who, x, slot, models[slot], i, word.get(i), reading);
             }
@@ -480,7 +526,7 @@ public final class EventClockWorkbenchOracle {
         }
     }
 
-    private static void blocking(String who, EventClockWorkbench x, int slot, Model model, int index, Event e,
+    private static void blocking(String who, Bench x, int slot, Model model, int index, Event e,
             int reading) {
         for (int t = 0; t < model.transitions.size(); t++) {
             Transition transition = model.transitions.get(t);
@@ -491,7 +537,7 @@ public final class EventClockWorkbenchOracle {
             }
             Object got;
             try {
-                got = x.blockingConstraint(slot, t, index);
+                got = x.ask().blockingConstraint(slot, t, index);
             } catch (IllegalArgumentException thrown) {
                 got = "argument";
             }
@@ -499,30 +545,30 @@ public final class EventClockWorkbenchOracle {
         }
     }
 
-    private static void simulation(String who, EventClockWorkbench x, int slot, Model model, List<Event> word) {
+    private static void simulation(String who, Bench x, int slot, Model model, List<Event> word) {
         Object stuck = "none";
         for (int events = word.size(); events >= 0; events--) {
             int set = model.after(word.subList(0, events));
-            due(who + "statesAfter " + events, x.statesAfter(slot, events), set);
+            due(who + "statesAfter " + events, x.ask().statesAfter(slot, events), set);
             if (set == 0 && events > 0) {
                 stuck = events - 1;
             }
         }
-        due(who + "accepts", x.accepts(slot), model.accepts(word));
-        due(who + "deterministicRun", x.deterministicSet(slot, x.deterministicRun(slot)), model.after(word));
+        due(who + "accepts", x.ask().accepts(slot), model.accepts(word));
+        due(who + "deterministicRun", x.ask().deterministicSet(slot, x.ask().deterministicRun(slot)), model.after(word));
         List<List<Integer>> accepting = model.runs(word, true);
-        due(who + "runCount", x.runCount(slot), (long) model.runs(word, false).size());
-        due(who + "acceptingRuns", x.acceptingRuns(slot), (long) accepting.size());
+        due(who + "runCount", x.ask().runCount(slot), (long) model.runs(word, false).size());
+        due(who + "acceptingRuns", x.ask().acceptingRuns(slot), (long) accepting.size());
         Object got;
         try {
-            got = x.stuckAt(slot);
+            got = x.ask().stuckAt(slot);
         } catch (NoSuchElementException e) {
             got = "none";
         }
         due(who + "stuckAt", got, stuck);
         for (int i = 0; i < word.size(); i++) {
             try {
-                got = x.firstRun(slot, i);
+                got = x.ask().firstRun(slot, i);
             } catch (NoSuchElementException e) {
                 got = "none";
             }
