@@ -791,6 +791,17 @@ public final class EventClockWorkbenchPromises {
         due("40 all is back", 1, () -> x.transitionCount(0));
         due("40 copyAutomaton", 0, x::undo);
         undoKeepsTheRest();
+        undoAfterFullAutomaton();
+    }
+
+    private static void undoAfterFullAutomaton() {
+        EventClockWorkbench x = fresh();
+        for (int i = 0; i < 10; i++) {
+            x.addTransition(1, 0, 0, 0);
+        }
+        due("4 full", STATE, () -> x.addTransition(1, 0, 0, 0));
+        due("40 the latest that succeeded", 7, x::undo);
+        due("40 nine remain", 9, () -> x.transitionCount(1));
     }
 
     private static void undoKeepsTheRest() {
