@@ -893,7 +893,7 @@ public final class EventClockWorkbench {
             }
             for (int t = 0; t < automaton.size(); t++) {
                 int bit = 1 << STATES * automaton.cell(t, Automaton.SOURCE) + automaton.cell(t, Automaton.TARGET);
-                addMoves(automaton.letter(t), automaton.allowed(t), bit);
+                addMoves(automaton.cell(t, Automaton.LETTER), automaton.cell(t, Automaton.ALLOWED), bit);
             }
         }
 

@@ -1,18 +1,5 @@
-import java.util.NoSuchElementException;
-
 /** Each promise of the document: ordinary inputs, the edges that it names, and wrong inputs. */
-public final class EventClockWorkbenchPromises {
-    private static final Class<?> INDEX = IndexOutOfBoundsException.class;
-    private static final Class<?> ARGUMENT = IllegalArgumentException.class;
-    private static final Class<?> STATE = IllegalStateException.class;
-    private static final Class<?> ELEMENT = NoSuchElementException.class;
-
-    private static int wrong = 0;
-
-    private interface Call {
-        Object answer();
-    }
-
+public final class EventClockWorkbenchPromises extends WorkbenchTest {
     public static void main(String[] args) {
         newObject();
         characters();
@@ -38,61 +25,7 @@ public final class EventClockWorkbenchPromises {
         undoing();
         saving();
         examples();
-        System.out.println(wrong == 0 ? "all promises hold" : wrong + " answers are not as due");
-        if (wrong != 0) {
-            System.exit(1);
-        }
-    }
-
-    private static void due(String what, Object want, Call call) {
-        Object got;
-        try {
-            got = call.answer();
-        } catch (RuntimeException e) {
-            got = e.getClass();
-        }
-        if (!want.equals(got)) {
-            wrong++;
-            System.out.println(what + " answered " + got + ", due is " + want);
-        }
-    }
-
-    private static void dueCall(String what, Object want, Runnable call) {
-        due(what, want, () -> {
-            call.run();
-            return "nothing";
-        });
-    }
-
-    private static EventClockWorkbench fresh() {
-        return new EventClockWorkbench();
-    }
-
-    private static void write(EventClockWorkbench x, String text) {
-        for (char c : text.toCharArray()) {
-            x.appendCharacter(c);
-        }
-    }
-
-    private static int add(EventClockWorkbench x, int slot, int from, String letter, String guard, int to) {
-        write(x, guard);
-        return x.addTransition(slot, from, letter.charAt(0) - 'a', to);
-    }
-
-    /** Makes a word of pairs of a delay and a letter. */
-    private static void word(EventClockWorkbench x, String events) {
-        x.clearWord();
-        for (int i = 0; i + 1 < events.length(); i += 2) {
-            x.appendEvent(events.charAt(i) - '0', events.charAt(i + 1) - 'a');
-        }
-    }
-
-    private static String shownWord(EventClockWorkbench x) {
-        StringBuilder shown = new StringBuilder();
-        for (int i = 0; i < x.wordLength(); i++) {
-            shown.append(x.event(i, 0)).append((char) ('a' + x.event(i, 1)));
-        }
-        return shown.toString();
+        finish("all promises hold");
     }
 
     private static void newObject() {
@@ -632,16 +565,9 @@ public final class EventClockWorkbenchPromises {
         longWitness();
     }
 
-    /** The clock of b, read at every unit, counts the clock of c up, twice: 10 events are the fewest, then 11. */
     private static void longWitness() {
         EventClockWorkbench x = fresh();
-        add(x, 0, 0, "c", "", 1);
-        add(x, 0, 1, "b", "b?&c=0", 1);
-        add(x, 0, 1, "b", "b=1&c<=3", 1);
-        add(x, 0, 1, "c", "b=1&c>3", 2);
-        add(x, 0, 2, "b", "b=1&c<=3", 2);
-        add(x, 0, 2, "b", "b=1&c=3", 3);
-        x.setFinal(0, 3, true);
+        countUpTwice(x, 0, "c=3");
         due("34 ten events", 10, () -> x.takeWitness(0));
         due("34 its word", "0c0b1b1b1b1c0b1b1b1b", () -> shownWord(x));
         x.removeTransition(0, 5);
