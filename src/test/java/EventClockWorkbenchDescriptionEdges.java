@@ -522,6 +522,10 @@ public final class EventClockWorkbenchDescriptionEdges extends WorkbenchTest {
             x.addTransition(0, 0, letter, 0);
         }
         due("it is not found", 1, () -> x.deterministicStates(0));
+        for (int letter = 0; letter < 3; letter++) {
+            int l = letter;
+            due("nor among the branches", 1, () -> x.branches(0, 0, l));
+        }
         add(x, 0, 1, "a", "", 1);
         x.removeTransition(0, 2);
         add(x, 0, 0, "c", "a<=3", 0);
@@ -572,6 +576,29 @@ public final class EventClockWorkbenchDescriptionEdges extends WorkbenchTest {
         due("state 1 is found", 3, () -> x.deterministicStates(0));
         x.setFinal(0, 1, true);
         due("though no word leads to it", true, () -> x.isEmpty(0));
+        dueAlone("a=0&b=0&c=0", 0);
+        dueAlone("a>3&b>3&c>3", 1);
+        dueAlone("a?&b?&c?", 1);
+    }
+
+    /** A guard that one valuation satisfies, which is the first one of all or not. */
+    private static void dueAlone(String guard, int branch) {
+        for (int letter = 0; letter < 3; letter++) {
+            int l = letter;
+            EventClockWorkbench x = fresh();
+            x.addTransition(0, 0, l, 0);
+            add(x, 0, 0, String.valueOf((char) ('a' + letter)), guard, 1);
+            due("branches with " + guard, 2, () -> x.branches(0, 0, l));
+            due("one valuation", 1, () -> x.branchValuations(0, 0, l, branch));
+            due("all others", 215, () -> x.branchValuations(0, 0, l, 1 - branch));
+            due("two states", 3, () -> x.deterministicSet(0, x.branchTarget(0, 0, l, branch)));
+            due("one state", 1, () -> x.deterministicSet(0, x.branchTarget(0, 0, l, 1 - branch)));
+            x.removeTransition(0, 1);
+            due("one branch without it", 1, () -> x.branches(0, 0, l));
+            due("for all valuations", 216, () -> x.branchValuations(0, 0, l, 0));
+            x.removeTransition(0, 0);
+            due("the empty set alone", 0, () -> x.deterministicSet(0, x.branchTarget(0, 0, l, 0)));
+        }
     }
 
     private static void dueWitness(EventClockWorkbench x, String word) {
@@ -842,10 +869,28 @@ public final class EventClockWorkbenchDescriptionEdges extends WorkbenchTest {
         add(x, 0, 2, "b", "", 2);
         add(x, 0, 1, "c", "", 2);
         due("another source or letter", true, () -> x.isDeterministic(0));
+        for (int first = 0; first < 10; first++) {
+            for (int second = 0; second < first; second++) {
+                dueConflict(first, second);
+            }
+        }
         EventClockWorkbench y = fresh();
         add(y, 0, 0, "a", "b=2", 1);
         add(y, 0, 0, "a", "b=2", 1);
         due("in state 0 all clocks are undefined, but", false, () -> y.isDeterministic(0));
+    }
+
+    /** Ten transitions, of which these two share one valuation and no others do. */
+    private static void dueConflict(int first, int second) {
+        EventClockWorkbench x = fresh();
+        for (int i = 0; i < 10; i++) {
+            boolean shared = i == first || i == second;
+            add(x, 0, shared ? 3 : i % 3, shared ? "c" : String.valueOf((char) ('a' + i / 3 % 3)),
+                    shared ? i == first ? "a>3" : "b?" : i == 9 ? "a?" : "a!", i % 4);
+        }
+        due("transitions " + first + " and " + second, false, () -> x.isDeterministic(0));
+        x.removeTransition(0, first);
+        due("without the first", true, () -> x.isDeterministic(0));
     }
 
     private static void leftFault() {

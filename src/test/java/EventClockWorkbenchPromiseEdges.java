@@ -192,6 +192,10 @@ public final class EventClockWorkbenchPromiseEdges extends WorkbenchTest {
         due("the only one", 0, () -> x.removeTransition(1, 0));
         due("none is left", 0, () -> x.transitionCount(1));
         due("no more", INDEX, () -> x.removeTransition(1, 0));
+        EventClockWorkbench z = withTwoSteps();
+        z.removeTransition(0, 2);
+        z.removeTransition(0, 1);
+        dueOneStep(z);
         for (int removed = 0; removed < 10; removed++) {
             removingOne(removed);
         }
@@ -203,6 +207,35 @@ public final class EventClockWorkbenchPromiseEdges extends WorkbenchTest {
             due("the last one", remaining, () -> y.removeTransition(0, last));
             due("it is gone", INDEX, () -> y.removeTransition(0, last));
         }
+    }
+
+    /** From state 0 to 1 with a, and to the final state 2 with b, twice. */
+    private static EventClockWorkbench withTwoSteps() {
+        EventClockWorkbench x = fresh();
+        x.addTransition(0, 0, 0, 1);
+        x.addTransition(0, 1, 1, 2);
+        x.addTransition(0, 1, 1, 2);
+        x.setFinal(0, 2, true);
+        word(x, "0a0b");
+        due("two runs", 2L, () -> x.runCount(0));
+        due("the first", 1, () -> x.firstRun(0, 1));
+        due("not deterministic", false, () -> x.isDeterministic(0));
+        due("the deterministic states", 4, () -> x.deterministicStates(0));
+        return x;
+    }
+
+    /** Without the second step nothing can read b. */
+    private static void dueOneStep(EventClockWorkbench x) {
+        due("one transition", 1, () -> x.transitionCount(0));
+        due("no run", 0L, () -> x.runCount(0));
+        due("no accepting run", ELEMENT, () -> x.firstRun(0, 0));
+        due("no state", 0, () -> x.statesAfter(0, 2));
+        due("stuck at b", 1, () -> x.stuckAt(0));
+        due("deterministic", true, () -> x.isDeterministic(0));
+        due("the deterministic states", 3, () -> x.deterministicStates(0));
+        due("the empty set from state 1 with b", 2, () -> x.branchTarget(0, 1, 1, 0));
+        due("empty", true, () -> x.isEmpty(0));
+        due("no words", 0L, () -> x.acceptedWords(0, 2, 4));
     }
 
     private static void removingOne(int removed) {
@@ -307,6 +340,11 @@ public final class EventClockWorkbenchPromiseEdges extends WorkbenchTest {
             due("no transition", 0, () -> x.transitionCount(s));
             due("state 0 is initial", 1, () -> x.statesAfter(s, 0));
         }
+        EventClockWorkbench y = withTwoSteps();
+        y.clearAutomaton(0);
+        y.addTransition(0, 0, 0, 1);
+        y.setFinal(0, 2, true);
+        dueOneStep(y);
     }
 
     private static void transitionCounts() {
@@ -509,6 +547,21 @@ public final class EventClockWorkbenchPromiseEdges extends WorkbenchTest {
         }
         due("four initial states, the empty word", 4L, () -> x.runCount(0));
         due("one of them final", 1L, () -> x.acceptingRuns(0));
+        EventClockWorkbench y = fresh();
+        for (int state = 0; state < 4; state++) {
+            y.addTransition(1, state, 0, (state + 1) % 4);
+            y.addTransition(1, state, 0, (state + 3) % 4);
+        }
+        y.setFinal(1, 3, true);
+        word(y, "0a0a0a0a0a0a0a0a0a");
+        due("runs through all states", 512L, () -> y.runCount(1));
+        due("half of them end in state 3", 256L, () -> y.acceptingRuns(1));
+        y.appendEvent(0, 0);
+        due("runs through all states", 1024L, () -> y.runCount(1));
+        due("none of them ends in state 3", 0L, () -> y.acceptingRuns(1));
+        y.setInitial(1, 3, true);
+        due("runs from state 3, too", 2048L, () -> y.runCount(1));
+        due("half of them end there", 512L, () -> y.acceptingRuns(1));
     }
 
     private static void firstRuns() {
@@ -884,13 +937,24 @@ public final class EventClockWorkbenchPromiseEdges extends WorkbenchTest {
         due("nothing is left", STATE, z::undo);
         due("no transition", 0, () -> z.transitionCount(0) + z.transitionCount(1));
         undoingBothAutomata();
+        EventClockWorkbench steps = withTwoSteps();
+        due("an accepted word", false, () -> steps.isEmpty(0));
+        steps.setFinal(0, 2, false);
+        steps.undo();
+        steps.undo();
+        steps.undo();
+        steps.undo();
+        steps.setFinal(0, 2, true);
+        dueOneStep(steps);
     }
 
     private static void undoingBothAutomata() {
         EventClockWorkbench x = withTransitions(0, 10);
         x.setFinal(1, 2, true);
         x.copyAutomaton(0);
+        due("sets of the copy", 5, () -> x.deterministicStates(1));
         due("undo of a copy", 7, x::undo);
+        due("sets of the other", 2, () -> x.deterministicStates(1));
         due("the other as before", 0, () -> x.transitionCount(1));
         due("its final state", true, () -> x.setFinal(1, 2, true));
         x.undo();
