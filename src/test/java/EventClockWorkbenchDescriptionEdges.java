@@ -5,13 +5,22 @@ public final class EventClockWorkbenchDescriptionEdges extends WorkbenchTest {
     /** Beginnings of sentences that tell what something is, not how far it goes. */
     private static final List<String> WITHOUT_A_BOUNDARY = List.of("A workbench for event-recording automata",
             "The class is not thread-safe.", "Letters and clocks.", "Each letter has a clock.", "Constraints.",
-            "A constraint belongs to a clock.", "Automata.", "A transition leads from a state to a state", "Timed words.",
-            "Guard texts.", "Deterministic automaton.", "Search.", "Changes.", "Details.");
+            "A constraint belongs to a clock.", "Automata.", "A transition leads from a state to a state",
+            "Timed words.", "Guard texts.", "Deterministic automaton.", "Search.", "Changes.", "Details.");
     /** Beginnings of sentences that EventClockWorkbenchRefusals and EventClockWorkbenchGuardTexts quote. */
     private static final List<String> TESTED_ELSEWHERE = List.of("A call that throws an exception leaves the state",
             "If a method can throw several exceptions,", "There is a text of at most 30 characters", "A guard text is",
             "A constraint is the name of a letter", "There are no spaces.", "The fault position of a text is",
             "A \"&\" behind the fourth constraint");
+
+    /** For each constraint the values 0 to 4 and undefined that satisfy it. */
+    private static final String[][] SATISFIED = {
+        {"<0", "......"}, {"<1", "0....."}, {"<2", "01...."}, {"<3", "012..."},
+        {"<=0", "0....."}, {"<=1", "01...."}, {"<=2", "012..."}, {"<=3", "0123.."},
+        {"=0", "0....."}, {"=1", ".1...."}, {"=2", "..2..."}, {"=3", "...3.."},
+        {">=0", "01234."}, {">=1", ".1234."}, {">=2", "..234."}, {">=3", "...34."},
+        {">0", ".1234."}, {">1", "..234."}, {">2", "...34."}, {">3", "....4."},
+        {"?", ".....9"}, {"!", "01234."}};
 
     public static void main(String[] args) {
         lastCall();
@@ -199,15 +208,6 @@ public final class EventClockWorkbenchDescriptionEdges extends WorkbenchTest {
             }
         }
     }
-
-    /** For each constraint the values 0 to 4 and undefined that satisfy it. */
-    private static final String[][] SATISFIED = {
-        {"<0", "......"}, {"<1", "0....."}, {"<2", "01...."}, {"<3", "012..."},
-        {"<=0", "0....."}, {"<=1", "01...."}, {"<=2", "012..."}, {"<=3", "0123.."},
-        {"=0", "0....."}, {"=1", ".1...."}, {"=2", "..2..."}, {"=3", "...3.."},
-        {">=0", "01234."}, {">=1", ".1234."}, {">=2", "..234."}, {">=3", "...34."},
-        {">0", ".1234."}, {">1", "..234."}, {">2", "...34."}, {">3", "....4."},
-        {"?", ".....9"}, {"!", "01234."}};
 
     private static void kinds() {
         quote(0, "It has a kind: less than (0), at most (1), equal to (2), at least (3) or greater than (4) a number"
@@ -447,14 +447,6 @@ public final class EventClockWorkbenchDescriptionEdges extends WorkbenchTest {
         due("ten", 10, x::wordLength);
     }
 
-    /** From state 0 with a, all sixteen sets of states: clock a at 1 or 2, and the others at 2 or more. */
-    static void allSets(EventClockWorkbench x, int slot) {
-        add(x, slot, 0, "a", "a<=1", 0);
-        add(x, slot, 0, "a", "a>=1&a<=2", 1);
-        add(x, slot, 0, "a", "b>1", 2);
-        add(x, slot, 0, "a", "c>1", 3);
-    }
-
     private static void numberZero() {
         quote(0, "A set of states is written as a bit mask.");
         EventClockWorkbench x = fresh();
@@ -547,7 +539,7 @@ public final class EventClockWorkbenchDescriptionEdges extends WorkbenchTest {
         quote(0, "For each deterministic state and each letter, its different successors, over all valuations, are"
                 + " called its branches; they are numbered from 0 in the order in which they are first found.");
         EventClockWorkbench x = fresh();
-        allSets(x, 1);
+        addAllSets(x, 1);
         due("all sets are found", 16, () -> x.deterministicStates(1));
         due("sixteen branches", 16, () -> x.branches(1, 0, 0));
         due("one branch", 1, () -> x.branches(1, 0, 1));

@@ -242,10 +242,40 @@ public final class EventClockWorkbenchOracle {
                 word("seed " + seed + " word " + i + " ", x, models, random);
             }
         }
+        for (int valuation : allValuations()) {
+            exactValuation(valuation);
+        }
         System.out.println(wrong == 0 ? "all answers agree" : wrong + " answers do not agree");
         if (wrong != 0) {
             System.exit(1);
         }
+    }
+
+    /** A last event that one valuation alone can read, behind any others: so no valuation is lost on the way. */
+    private static void exactValuation(int valuation) {
+        StringBuilder guard = new StringBuilder();
+        for (int clock = 0; clock < 3; clock++) {
+            int value = digits(valuation)[clock];
+            guard.append(clock == 0 ? "" : "&").append((char) ('a' + clock));
+            guard.append(value == 9 ? "?" : value == 4 ? ">3" : "=" + value);
+        }
+        Bench x = new Bench();
+        Model model = new Model();
+        for (int letter = 0; letter < 3; letter++) {
+            addTo(x, 0, model, new Transition(0, letter, 0, ""));
+        }
+        addTo(x, 0, model, new Transition(0, valuation % 3, 3, guard.toString()));
+        x.step(w -> w.setFinal(0, 3, true) ? 1 : 0);
+        model.finals = 8;
+        searches("valuation " + valuation + " ", x, 0, model, new Model());
+    }
+
+    private static void addTo(Bench x, int slot, Model model, Transition t) {
+        for (char c : t.guard.toCharArray()) {
+            x.step(w -> w.appendCharacter(c));
+        }
+        due("addTransition", x.step(w -> w.addTransition(slot, t.from, t.letter, t.to)), model.transitions.size());
+        model.transitions.add(t);
     }
 
     private static int copied(EventClockWorkbench x, int slot) {
@@ -272,11 +302,7 @@ public final class EventClockWorkbenchOracle {
             }
             Transition t = new Transition(random.nextInt(4), random.nextInt(letters), random.nextInt(4),
                     guard.toString());
-            for (char c : t.guard.toCharArray()) {
-                x.step(w -> w.appendCharacter(c));
-            }
-            due("addTransition", x.step(w -> w.addTransition(slot, t.from, t.letter, t.to)), i);
-            model.transitions.add(t);
+            addTo(x, slot, model, t);
         }
         for (int s = 0; s < 4; s++) {
             int state = s;

@@ -63,13 +63,9 @@ public final class EventClockWorkbenchPromiseEdges extends WorkbenchTest {
         }
     }
 
-    /** From state 0 with a, all sixteen sets of states. */
     private static EventClockWorkbench withAllSets() {
         EventClockWorkbench x = fresh();
-        add(x, 0, 0, "a", "a<=1", 0);
-        add(x, 0, 0, "a", "a>=1&a<=2", 1);
-        add(x, 0, 0, "a", "b>1", 2);
-        add(x, 0, 0, "a", "c>1", 3);
+        addAllSets(x, 0);
         return x;
     }
 

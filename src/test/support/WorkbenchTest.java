@@ -116,6 +116,14 @@ abstract class WorkbenchTest {
         x.setFinal(slot, 3, true);
     }
 
+    /** From state 0 with a, all sixteen sets of states: two by the clock of a, and two by those of b and c. */
+    static void addAllSets(EventClockWorkbench x, int slot) {
+        add(x, slot, 0, "a", "a<=1", 0);
+        add(x, slot, 0, "a", "a>=1&a<=2", 1);
+        add(x, slot, 0, "a", "b>1", 2);
+        add(x, slot, 0, "a", "c>1", 3);
+    }
+
     static String shownWord(EventClockWorkbench x) {
         StringBuilder shown = new StringBuilder();
         for (int i = 0; i < x.wordLength(); i++) {
