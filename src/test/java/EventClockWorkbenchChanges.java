@@ -53,6 +53,11 @@ public final class EventClockWorkbenchChanges {
         return shown.toString();
     }
 
+    /** Asks calls that work with the automata; what they have worked out must not outlive a change. */
+    private static String asked(EventClockWorkbench x) {
+        return x.isIncluded(0) + " " + x.isEmpty(1) + " " + x.acceptedWords(0, 2, 2) + " " + x.averageBranches(1);
+    }
+
     private static void run(int seed) {
         List<Step> steps = new ArrayList<>();
         Random random = new Random(seed);
@@ -62,6 +67,7 @@ public final class EventClockWorkbenchChanges {
         List<String> past = new ArrayList<>();
         String saved = "throws";
         String before = shown(new EventClockWorkbench());
+        EventClockWorkbench askedAlways = new EventClockWorkbench();
         for (int i = 0; i < STEPS; i++) {
             String who = "seed " + seed + " step " + i;
             // No more than 512 calls of an object are promised, so each step is looked at on an object of its own.
@@ -71,6 +77,8 @@ public final class EventClockWorkbenchChanges {
                 answer = steps.get(k).taken(x);
             }
             String after = shown(x);
+            due(who + " the same step, asked before", steps.get(i).taken(askedAlways), answer);
+            due(who + " asked before, too", asked(askedAlways), asked(x));
             int kind = steps.get(i).kind;
             String want = before;
             if (kind == SAVE) {

@@ -6,27 +6,12 @@ import java.lang.reflect.Modifier;
 import java.nio.file.Files;
 import java.nio.file.Path;
 import java.util.ArrayList;
-import java.util.Arrays;
 import java.util.List;
 import java.util.regex.Matcher;
 import java.util.regex.Pattern;
 
 /** The public face as the document prints it, and the rules of LANGUAGE.md that a text search can see. */
 public final class EventClockWorkbenchFace {
-    private static final String[] FACE = {
-        "int appendCharacter(int)", "int faultPosition()", "int addTransition(int,int,int,int)",
-        "int removeTransition(int,int)", "boolean setInitial(int,int,boolean)", "boolean setFinal(int,int,boolean)",
-        "void copyAutomaton(int)", "void clearAutomaton(int)", "int transitionCount(int)",
-        "int transition(int,int,int)", "int constraint(int,int,int,int)", "int satisfyingValuations(int,int)",
-        "int appendEvent(int,int)", "int clearWord()", "int wordLength()", "int event(int,int)",
-        "int valuationBefore(int)", "int statesAfter(int,int)", "boolean accepts(int)", "long runCount(int)",
-        "long acceptingRuns(int)", "int firstRun(int,int)", "int stuckAt(int)", "int blockingConstraint(int,int,int)",
-        "int deterministicStates(int)", "int deterministicSet(int,int)", "int branches(int,int,int)",
-        "int branchTarget(int,int,int,int)", "int branchValuations(int,int,int,int)", "int deterministicRun(int)",
-        "boolean isDeterministic(int)", "boolean isEmpty(int)", "int takeWitness(int)", "int takeDifference(int)",
-        "boolean isIncluded(int)", "long acceptedWords(int,int,int)", "double acceptedShare(int,int)",
-        "float averageBranches(int)", "int undo()", "void save()", "void restore()"};
-
     /** Words that the rules leave no use for. */
     private static final String[] RULED_OUT = {"->", "::", "synchronized", "assert ", "finally", "native", "volatile",
         "System.out", "System.exit", "nanoTime", "currentTimeMillis", "Random", "Thread", "equals(", "hashCode",
@@ -54,16 +39,36 @@ public final class EventClockWorkbenchFace {
         }
     }
 
+    /** The method as the document prints it, without the names of its parameters. */
     private static String shown(Method method) {
-        List<String> types = new ArrayList<>();
-        for (Class<?> type : method.getParameterTypes()) {
-            types.add(type.getName());
+        String shown = method.getReturnType().getName() + " " + method.getName() + "("
+                + names(method.getParameterTypes()) + ")";
+        Class<?>[] thrown = method.getExceptionTypes();
+        return thrown.length == 0 ? shown : shown + " throws " + names(thrown);
+    }
+
+    private static String names(Class<?>[] types) {
+        List<String> names = new ArrayList<>();
+        for (Class<?> type : types) {
+            names.add(type.getSimpleName());
         }
-        return method.getReturnType().getName() + " " + method.getName() + "(" + String.join(",", types) + ")";
+        return String.join(", ", names);
+    }
+
+    /** Each promise begins with its member of the face, in the same order. */
+    private static List<String> printedMethods() {
+        List<String> printed = Document.face();
+        due("a member for each promise", printed.size() == Document.PROMISES);
+        for (int i = 0; i < printed.size(); i++) {
+            due("promise of " + printed.get(i), Document.sentences(i + 1).get(0).equals("`" + printed.get(i) + "`"));
+        }
+        due("the constructor", printed.remove("EventClockWorkbench()"));
+        printed.replaceAll(method -> method.replaceAll("(int|boolean) \\w+([,)])", "$1$2"));
+        return printed;
     }
 
     private static void methods(Class<?> type) {
-        List<String> want = new ArrayList<>(Arrays.asList(FACE));
+        List<String> want = printedMethods();
         List<String> publicNames = new ArrayList<>();
         for (Method method : type.getDeclaredMethods()) {
             if (Modifier.isPublic(method.getModifiers())) {

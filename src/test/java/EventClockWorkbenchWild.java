@@ -12,6 +12,7 @@ public final class EventClockWorkbenchWild {
     private static final int[] EXTREMES = {Integer.MIN_VALUE, Integer.MAX_VALUE, Integer.MIN_VALUE + 1, -1, 10, 16, 30,
         100, 1 << 28, 0x2AAAAAAB, 613566757, 357913942};
 
+    private static final int MOST_TOLD = 5;
     private static int wrong = 0;
 
     public static void main(String[] args) throws IllegalAccessException {
@@ -49,10 +50,17 @@ public final class EventClockWorkbenchWild {
             boolean declared = Arrays.asList(method.getExceptionTypes()).contains(thrown.getClass());
             boolean own = thrown.getStackTrace()[0].getMethodName().startsWith("require");
             if (!declared || !own) {
-                wrong++;
-                System.out.println(method + Arrays.toString(arguments) + " threw " + thrown);
-                thrown.printStackTrace(System.out);
+                tell(method + Arrays.toString(arguments) + " threw " + thrown, thrown);
             }
+        }
+    }
+
+    /** One fault can show in thousands of calls, so only the first are told. */
+    private static void tell(String fault, Throwable thrown) {
+        wrong++;
+        if (wrong <= MOST_TOLD) {
+            System.out.println(fault);
+            thrown.printStackTrace(System.out);
         }
     }
 

@@ -36,6 +36,17 @@ final class Document {
         return sentencesOf(whole.substring(whole.indexOf('\n')));
     }
 
+    /** Answers the members that the public face prints, without the word public. */
+    static List<String> face() {
+        List<String> members = new ArrayList<>();
+        for (String line : between("## The public face", "## Description").split("\n")) {
+            if (line.matches("    public .*;")) {
+                members.add(line.trim().replaceAll("^public |;$", ""));
+            }
+        }
+        return members;
+    }
+
     private static String between(String begin, String end) {
         int from = TEXT.indexOf(begin);
         int to = TEXT.indexOf(end);
